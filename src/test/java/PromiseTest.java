@@ -302,6 +302,21 @@ public final class PromiseTest {
         due("nobody is DEAD", x.count(9), 0);
     }
 
+    private static void aProbeThatMattersTheSecondTime() {
+        QuietWatch x = allActive(4);
+        x.ask(0, 6);
+        x.receive(0, 1);
+        x.receive(0, 2);
+        ask(x, 2, 1);
+        x.probe(0);
+        due("a PROBE for one that isn't BLOCKED", x.receive(0, 1), PROBE);
+        ask(x, 1, 3);
+        x.receive(0, 2);
+        due("the same PROBE by another way", x.receive(2, 1), PROBE);
+        due("goes on, for the first didn't matter", x.message(1, 3, 0, 0), PROBE);
+        due("who began it", x.message(1, 3, 0, 1), 0);
+    }
+
     private static void aProbeSentOn() {
         QuietWatch x = allActive(4);
         ask(x, 0, 1);
@@ -469,19 +484,25 @@ public final class PromiseTest {
     }
 
     private static void theRingWithABlackRoot() {
-        QuietWatch x = allActive(3);
-        x.send(1, 0);
-        x.rest(1);
+        QuietWatch x = started(3);
+        x.send(0, 2);
+        x.receive(0, 2);
+        x.send(2, 0);
         x.rest(2);
         x.rest(0);
         x.pass(0);
-        x.receive(1, 0);
+        turn(x, 3);
+        due("a BLACK TOKEN begins a round", x.pass(0), 1);
+        due("the WORK of 2 comes meanwhile", x.receive(2, 0), WORK);
         x.rest(0);
         turn(x, 3);
-        x.receive(1, 0);
-        due("the ROOT is BLACK", x.told(0, 6), 1);
-        due("a round begins", x.pass(0), 1);
+        dueCounts("a WHITE TOKEN", x, 3, 0, 0, 2, 0, 0, 1, 0);
+        dueTold("a BLACK ROOT with nothing to count", x, 0, 0, 0, 1, NONE, 1, 0, 1, 1);
+        due("it is no end", x.pass(0), 1);
         due("the ROOT is WHITE", x.told(0, 6), 0);
+        due("the ROOT's ACK is before the TOKEN", x.receive(0, 2), ACK);
+        turn(x, 3);
+        due("the next round tells the end", x.pass(0), 2);
     }
 
     private static void receive() {
@@ -685,6 +706,7 @@ public final class PromiseTest {
         answer();
         probe();
         aProbeThatDoesNotMatter();
+        aProbeThatMattersTheSecondTime();
         aProbeSentOn();
         aProbeOfANumberThatMattered();
         aProbeThatComesBackTwice();
