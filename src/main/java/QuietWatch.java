@@ -418,7 +418,7 @@ public final class QuietWatch {
         int beginner = beginnerOf(content);
         if (beginner == q) {
             tellDead(q, receiver);
-        } else if (receiver.isNewProbe(beginner, numberOf(content))) {
+        } else if (receiver.noteIfNewer(beginner, numberOf(content))) {
             putToEach(q, receiver.waitsFor, content);
         }
     }
@@ -491,7 +491,7 @@ public final class QuietWatch {
             return waitsFor & ~repliesComing;
         }
 
-        boolean isNewProbe(int beginner, int number) {
+        boolean noteIfNewer(int beginner, int number) {
             if (beginner < 0 || beginner >= latestProbe.length || number <= latestProbe[beginner]) {
                 return false;
             }
