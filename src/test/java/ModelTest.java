@@ -3,11 +3,14 @@ import java.util.List;
 import java.util.Random;
 
 /**
- * Long runs of drawn calls on the class and on a plain second telling of the document; every answer,
- * and behind every call all that can be asked, must be the same.
+ * Long runs of drawn calls on the class and on a plain second telling of the document; every answer
+ * must be the same, and now and then all that can be asked.
  */
 public final class ModelTest {
-    private static final int CALLS = 512;
+    /** Behind so many calls on one object nothing is promised. */
+    private static final int LAST_CALL = 512;
+    private static final int DRAWN_CALLS = 480;
+    private static final int CALLS_TILL_ALL_IS_COMPARED = 40;
 
     /** The document's terms, told as plainly as can be. */
     private static final class Model {
@@ -318,11 +321,44 @@ public final class ModelTest {
         }
     }
 
-    private static void due(String call, boolean got, boolean want) {
-        due(call, got ? 1 : 0, want ? 1 : 0);
+    private static int oneIf(boolean holds) {
+        return holds ? 1 : 0;
     }
 
-    /** How often each call is drawn: send, rest, ask, answer, probe, pass, receive, run. */
+    /** A call that changes something, with its two numbers; true counts 1. */
+    private record Call(String name, int a, int b) {
+        int on(QuietWatch x) {
+            return switch (name) {
+                case "start" -> oneIf(x.start());
+                case "send" -> oneIf(x.send(a, b));
+                case "rest" -> oneIf(x.rest(a));
+                case "ask" -> x.ask(a, b);
+                case "answer" -> oneIf(x.answer(a, b));
+                case "probe" -> x.probe(a);
+                case "pass" -> x.pass(a);
+                case "receive" -> x.receive(a, b);
+                default -> x.run(a, b);
+            };
+        }
+
+        int on(Model y) {
+            return switch (name) {
+                case "start" -> oneIf(y.start());
+                case "send" -> oneIf(y.send(a, b));
+                case "rest" -> oneIf(y.rest(a));
+                case "ask" -> y.ask(a, b);
+                case "answer" -> oneIf(y.answer(a, b));
+                case "probe" -> y.probe(a);
+                case "pass" -> y.pass(a);
+                case "receive" -> y.receive(a, b);
+                default -> y.run(a, b);
+            };
+        }
+    }
+
+    private static final String[] NAMES = {"send", "rest", "ask", "answer", "probe", "pass", "receive", "run"};
+
+    /** How often each of these is drawn. */
     private static final int[][] MOODS = {
         {3, 2, 0, 0, 0, 2, 8, 0},
         {3, 4, 0, 0, 0, 1, 4, 1},
@@ -336,13 +372,17 @@ public final class ModelTest {
 
     private final Random random;
     private final int[] mood;
+    private final int processes;
     private final QuietWatch x;
     private final Model y;
+    private final List<Call> made = new ArrayList<>();
+    private QuietWatch alike;
+    private int questionsLeft;
 
     private ModelTest(int seed) {
         random = new Random(seed);
         mood = MOODS[seed % MOODS.length];
-        int processes = seed % 5 == 0 ? 2 : random.nextInt(14) - 1;
+        processes = seed % 5 == 0 ? 2 : random.nextInt(14) - 1;
         x = new QuietWatch(processes);
         y = new Model(processes);
     }
@@ -351,7 +391,7 @@ public final class ModelTest {
         return random.nextInt(40) == 0 ? random.nextInt(80) - 40 : random.nextInt(y.n);
     }
 
-    private int which() {
+    private String name() {
         int all = 0;
         for (int often : mood) {
             all += often;
@@ -361,107 +401,114 @@ public final class ModelTest {
         while (left >= mood[call]) {
             left -= mood[call++];
         }
-        return call;
+        return NAMES[call];
     }
 
-    private void receiveSome() {
+    /** Most rows are empty: looks for one that isn't, so that most receives do something. */
+    private Call someReceive() {
         int p = process();
         int q = process();
-        // Most rows are empty: look for one that isn't, so that most receives do something.
         for (int i = 0; i < 30 && y.message(p, q, 0, 0) < 0; i++) {
             p = process();
             q = process();
         }
-        due("receive(" + p + ", " + q + ")", x.receive(p, q), y.receive(p, q));
+        return new Call("receive", p, q);
     }
 
-    private void callOne() {
+    private Call someCall() {
         int p = process();
-        int q = process();
         int number = random.nextInt();
-        switch (which()) {
-            case 0 -> due("send(" + p + ", " + q + ")", x.send(p, q), y.send(p, q));
-            case 1 -> due("rest(" + p + ")", x.rest(p), y.rest(p));
-            case 2 -> {
-                int mask = random.nextInt(3) == 0 ? number : 1 << (number & 15);
-                due("ask(" + p + ", " + mask + ")", x.ask(p, mask), y.ask(p, mask));
+        String name = name();
+        return switch (name) {
+            case "ask" -> new Call(name, p, random.nextInt(3) == 0 ? number : 1 << (number & 15));
+            case "pass" -> new Call(name, y.holder >= 0 && random.nextBoolean() ? y.holder : p, 0);
+            case "receive" -> someReceive();
+            case "run" -> new Call(name, random.nextInt(20) == 0 ? random.nextInt(2200) - 100 : random.nextInt(60), number);
+            default -> new Call(name, p, process());
+        };
+    }
+
+    private void make(Call call) {
+        due(call.toString(), call.on(x), call.on(y));
+        made.add(call);
+    }
+
+    /** An object on which the same calls were made, and which may be asked once more. */
+    private QuietWatch alike() {
+        if (questionsLeft == 0) {
+            alike = new QuietWatch(processes);
+            for (Call call : made) {
+                call.on(alike);
             }
-            case 3 -> due("answer(" + p + ", " + q + ")", x.answer(p, q), y.answer(p, q));
-            case 4 -> due("probe(" + p + ")", x.probe(p), y.probe(p));
-            case 5 -> {
-                int at = y.holder >= 0 && random.nextBoolean() ? y.holder : p;
-                due("pass(" + at + ")", x.pass(at), y.pass(at));
-            }
-            case 6 -> receiveSome();
-            default -> {
-                int n = random.nextInt(20) == 0 ? random.nextInt(2200) - 100 : random.nextInt(60);
-                due("run(" + n + ", " + number + ")", x.run(n, number), y.run(n, number));
-            }
+            questionsLeft = LAST_CALL - made.size();
         }
+        questionsLeft--;
+        return alike;
     }
 
     private void compareAll() {
-        for (int p = -1; p <= y.n; p++) {
-            for (int what = -1; what <= 12; what++) {
-                due("told(" + p + ", " + what + ")", x.told(p, what), y.told(p, what));
+        questionsLeft = 0;
+        for (int p = 0; p < y.n; p++) {
+            for (int what = 0; what < 12; what++) {
+                due("told(" + p + ", " + what + ")", alike().told(p, what), y.told(p, what));
             }
-            for (int q = -1; q <= y.n; q++) {
-                due("waits(" + p + ", " + q + ")", x.waits(p, q), y.waits(p, q));
+            for (int q = 0; q < y.n; q++) {
+                due("waits(" + p + ", " + q + ")", oneIf(alike().waits(p, q)), oneIf(y.waits(p, q)));
                 compareRow(p, q);
             }
         }
-        for (int what = -1; what <= 10; what++) {
-            due("count(" + what + ")", x.count(what), y.count(what));
+        for (int what = 0; what < 10; what++) {
+            due("count(" + what + ")", alike().count(what), y.count(what));
         }
-        due("quiet()", x.quiet(), y.quiet());
-        due("wrong()", x.wrong(), y.wrong);
-        due("falsely()", x.falsely(), y.falsely);
+        due("quiet()", oneIf(alike().quiet()), oneIf(y.quiet()));
+        due("wrong()", alike().wrong(), y.wrong);
+        due("falsely()", alike().falsely(), y.falsely);
     }
 
     private void compareRow(int p, int q) {
-        int size = y.is(p) && y.is(q) ? y.rows.get(p).get(q).size() : 0;
-        for (int i = -1; i <= size; i++) {
-            for (int what = 0; what <= 2; what++) {
-                due("message(" + p + ", " + q + ", " + i + ", " + what + ")", x.message(p, q, i, what), y.message(p, q, i, what));
+        int size = y.rows.get(p).get(q).size();
+        for (int i = 0; i <= size; i++) {
+            for (int what = 0; what < 3; what++) {
+                String call = "message(" + p + ", " + q + ", " + i + ", " + what + ")";
+                due(call, alike().message(p, q, i, what), y.message(p, q, i, what));
             }
         }
     }
 
     private void go() {
-        for (int call = 0; call < CALLS; call++) {
-            if (call == 5) {
-                due("start()", x.start(), y.start());
-            }
-            callOne();
-            if (call % 7 == 0 || call == CALLS - 1) {
+        for (int call = 1; call <= DRAWN_CALLS; call++) {
+            make(call == 5 ? new Call("start", 0, 0) : someCall());
+            if (call % CALLS_TILL_ALL_IS_COMPARED == 0) {
                 compareAll();
             }
         }
     }
 
-    /** All wait for all, and every probing is begun: the rows grow as long as they can. */
-    private static void fullRows() {
+    /** All wait for all, and many probings are begun: the rows grow long, and are worked off. */
+    private static void longRows(int probings, int runs) {
         QuietWatch x = new QuietWatch(10);
         Model y = new Model(10);
-        x.start();
-        y.start();
+        List<Call> calls = new ArrayList<>();
+        calls.add(new Call("start", 0, 0));
         for (int q = 1; q < 10; q++) {
-            due("send", x.send(0, q), y.send(0, q));
-            due("receive", x.receive(0, q), y.receive(0, q));
+            calls.add(new Call("send", 0, q));
+            calls.add(new Call("receive", 0, q));
         }
         for (int p = 0; p < 10; p++) {
-            due("ask", x.ask(p, -1), y.ask(p, -1));
+            calls.add(new Call("ask", p, -1));
         }
-        due("run", x.run(2000, 1), y.run(2000, 1));
-        for (int i = 0; i < 501; i++) {
-            due("probe", x.probe(i % 10), y.probe(i % 10));
+        calls.add(new Call("run", 2000, 1));
+        for (int i = 0; i < probings; i++) {
+            calls.add(new Call("probe", i % 10, 0));
         }
-        for (int i = 0; i < 100; i++) {
-            due("run", x.run(2000, i), y.run(2000, i));
-            due("count(6)", x.count(6), y.count(6));
-            due("count(9)", x.count(9), y.count(9));
+        for (int i = 0; i < runs; i++) {
+            calls.add(new Call("run", 2000, i));
         }
-        due("nothing is under way at last", x.count(6), 0);
+        for (Call call : calls) {
+            due(call.toString(), call.on(x), call.on(y));
+        }
+        due("count(6)", x.count(6), y.count(6));
+        due("count(9)", x.count(9), y.count(9));
         due("falsely()", x.falsely(), 0);
     }
 
@@ -476,7 +523,8 @@ public final class ModelTest {
             ringEnds += test.y.count(2);
             deads += test.y.count(9);
         }
-        fullRows();
+        longRows(300, 170);
+        longRows(450, 25);
         System.out.println(treeEnds + " ends by the tree, " + ringEnds + " by the ring, " + deads + " told to be dead");
         System.out.println(wrong == 0 ? "all answers are as due" : wrong + " answers are not as due");
         if (wrong != 0 || treeEnds == 0 || ringEnds == 0 || deads == 0) {
