@@ -189,13 +189,22 @@ public final class RefusedTest {
         return answers;
     }
 
-    /** The same, of calls that make all wait for all, probe, and receive what comes. */
+    /** The same, of calls that make all wait for all, and receive what comes. */
     private static List<String> laterWaits(Scene scene) {
         List<String> answers = new ArrayList<>();
         Watch x = scene.made();
-        for (int p = 0; p < scene.processes; p++) {
-            answers.add("later ask(" + p + ", -1) is " + x.ask(p, -1));
+        askAll(x, scene.processes, answers);
+        for (int i = 0; i < 3; i++) {
+            receiveAll(x, scene.processes, answers);
         }
+        return answers;
+    }
+
+    /** The same, with probings of all who wait: who is DEAD then, and was it told falsely? */
+    private static List<String> laterProbes(Scene scene) {
+        List<String> answers = new ArrayList<>();
+        Watch x = scene.made();
+        askAll(x, scene.processes, answers);
         receiveAll(x, scene.processes, answers);
         for (int p = 0; p < scene.processes; p++) {
             answers.add("later probe(" + p + ") is " + x.probe(p));
@@ -206,6 +215,12 @@ public final class RefusedTest {
         answers.add("later count(9) is " + x.count(9));
         answers.add("later falsely() is " + x.falsely());
         return answers;
+    }
+
+    private static void askAll(Watch x, int processes, List<String> answers) {
+        for (int p = 0; p < processes; p++) {
+            answers.add("later ask(" + p + ", -1) is " + x.ask(p, -1));
+        }
     }
 
     private static void receiveAll(Watch x, int processes, List<String> answers) {
@@ -262,6 +277,7 @@ public final class RefusedTest {
         private final List<String> laterOne;
         private final List<String> laterTwo;
         private final List<String> laterWaits;
+        private final List<String> laterProbes;
 
         Before(Scene scene) {
             this.scene = scene;
@@ -269,6 +285,7 @@ public final class RefusedTest {
             this.laterOne = later(scene, 1);
             this.laterTwo = later(scene, 2);
             this.laterWaits = laterWaits(scene);
+            this.laterProbes = laterProbes(scene);
         }
 
         void dueUnchanged(String name, Call call) {
@@ -279,6 +296,7 @@ public final class RefusedTest {
             compare(label, laterOne, later(changed, 1));
             compare(label, laterTwo, later(changed, 2));
             compare(label, laterWaits, laterWaits(changed));
+            compare(label, laterProbes, laterProbes(changed));
         }
 
         void refused(String name, Call call, int want) {
